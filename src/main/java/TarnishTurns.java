@@ -1748,7 +1748,7 @@ public final class TarnishTurns {
         int fewest(House house, int most) {
             packed[0] = most;
             for (int bits = 1; bits < house.secretSets(); bits++) {
-                int best = Integer.MAX_VALUE;
+                int best = (SECRETS + 1) * STEP;
                 for (int s = 0; s < house.secrets; s++) {
                     if (hasBit(bits, s)) {
                         best = Math.min(best, addTo(packed[bits & ~(1 << s)], house.weight[s], most));
