@@ -150,7 +150,7 @@ public final class OracleTest {
         StringBuilder told = new StringBuilder();
         int hour = 0;
         int table = 1 + RANDOM.nextInt(o.pieces.size());
-        int light = 1 + RANDOM.nextInt(60);
+        int light = 1 + RANDOM.nextInt(1 + RANDOM.nextInt(30));
         int pause = 1 + RANDOM.nextInt(4);
         for (int i = RANDOM.nextInt(most + 1); i > 0; i--) {
             hour = Math.min(60, hour + RANDOM.nextInt(pause));
@@ -243,8 +243,8 @@ public final class OracleTest {
             months(Oracle.byChance(RANDOM, 8, 10));
             draws(Oracle.byChance(RANDOM, 8, 10));
         }
-        for (int i = 0; i < 4000; i++) {
-            dinners(Oracle.byChance(RANDOM, 3, i < 3000 ? 5 : 7), i < 3000 ? 8 : 6);
+        for (int i = 0; i < 12000; i++) {
+            dinners(Oracle.byChance(RANDOM, 3, i < 10000 ? 5 : 8), i < 10000 ? 8 : 6);
         }
         KIT.finish();
     }
