@@ -114,6 +114,8 @@ public final class TarnishTurns {
     }
 
     public int text(int sort, int at) {
+        int length = told.length;
+        told.length = 0;
         told.fault = 0;
         told.place = NONE;
         if (sort < 0 || sort >= SORTS) {
@@ -124,8 +126,7 @@ public final class TarnishTurns {
         if (number < 0 || number >= bound) {
             return NO_SUCH;
         }
-        reader.read(told.tape, told.length, sort);
-        told.length = 0;
+        reader.read(told.tape, length, sort);
         told.fault = reader.fault;
         told.place = reader.place;
         if (reader.fault != 0) {

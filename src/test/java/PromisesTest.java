@@ -98,9 +98,6 @@ public final class PromisesTest {
             due("4 count", x.count(sort), 2);
         }
         Kit.put(x, "hour;");
-        due("4 no such sort", x.text(4, NONE), -2);
-        due("4 no such sort below", x.text(-1, NONE), -2);
-        due("4 the tape was not taken", x.end(5), 5);
         due("4 in the place of one", x.text(1, 1), 1);
         due("4 the tape is empty then", x.end(1), NONE);
         due("4 the other stays", x.deed(0, NONE, 0), 0);
@@ -113,6 +110,37 @@ public final class PromisesTest {
         due("4 -2 makes fault 0", x.text(1, 2), -2);
         due("4 fault 0", x.fault(0), 0);
         due("4 no place", x.fault(1), NONE);
+        due("4 the older one stays, too", x.deed(1, NONE, 0), 1);
+        for (int sort = 0; sort < 4; sort++) {
+            refused(x, sort, NONE);
+            refused(x, sort, 2);
+            refused(x, sort, -2);
+            refused(x, sort, MOST);
+            refused(x, sort, LEAST);
+            refused(new TarnishTurns(), sort, 0);
+        }
+        for (int at = -2; at < 3; at++) {
+            refused(x, 4, at);
+            refused(x, -1, at);
+            refused(x, MOST, at);
+            refused(x, LEAST, at);
+        }
+        due("4 an empty tape's text", x.text(1, 1), 1);
+        due("4 nothing was on it", x.deed(1, NONE, 0), 0);
+    }
+
+    /** A text() that answers -2 takes the tape, faulty or not, and says nothing of its FAULT. */
+    private static void refused(TarnishTurns x, int sort, int at) {
+        String call = "4 text " + sort + " " + at;
+        for (String text : new String[] {"", "hour;", "no text;"}) {
+            Kit.put(x, text);
+            due(call + " refused", x.text(sort, at), -2);
+            due(call + " fault", x.fault(0), 0);
+            due(call + " place", x.fault(1), NONE);
+            due(call + " has taken the tape", x.end(1), NONE);
+            due(call + " feed behind it", x.feed(0, 0, 0, 0, 0), 20);
+            x.end(0);
+        }
     }
 
     private static void faulty(int sort, String text, int fault, int place) {
