@@ -1,3 +1,8 @@
+import java.io.IOException;
+import java.io.UncheckedIOException;
+import java.nio.file.Files;
+import java.nio.file.Path;
+
 /** What the tests share: texts onto the tape, and answers held against those that are due. */
 final class Kit {
     static final String SILVER = "piece love 2;piece debt 3;piece will 0;secret love 5;secret debt 4;"
@@ -5,13 +10,33 @@ final class Kit {
 
     private int wrong = 0;
     private int asked = 0;
+    private String sentence = "";
+    private String document = "";
+
+    /** The sentence that the next answers are held against: its words must be the document's own. */
+    void of(String words) {
+        if (document.isEmpty()) {
+            document = document();
+        }
+        sentence = "";
+        due("the document says '" + words + "'", document.contains(words), true);
+        sentence = " ('" + words + "')";
+    }
+
+    private static String document() {
+        try {
+            return Files.readString(Path.of("../shared/DOC.md")).replaceAll("\\s+", " ");
+        } catch (IOException e) {
+            throw new UncheckedIOException(e);
+        }
+    }
 
     void due(String call, long got, long want) {
         asked++;
         if (got != want) {
             wrong++;
             if (wrong <= 40) {
-                System.out.println(call + " answered " + got + ", due is " + want);
+                System.out.println(call + " answered " + got + ", due is " + want + sentence);
             }
         }
     }
@@ -61,5 +86,14 @@ final class Kit {
             }
         }
         return x;
+    }
+
+    /** A new object with one HOUSE alone. */
+    static TarnishTurns home(String house) {
+        return with(house, null, null, null);
+    }
+
+    static String times(String line, int n) {
+        return line.repeat(n);
     }
 }

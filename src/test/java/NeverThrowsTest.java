@@ -5,7 +5,10 @@ import java.util.Comparator;
 import java.util.List;
 import java.util.Random;
 
-/** Calls by chance with wild arguments: none throws, the same calls answer the same, and asking changes nothing. */
+/**
+ * Calls by chance with wild arguments: none throws, the same calls answer the same, and asking changes nothing: neither
+ * what is told, nor what is answered to a later question.
+ */
 public final class NeverThrowsTest {
     private static final int[] WILD = {Integer.MIN_VALUE, Integer.MAX_VALUE, -100, -3, -2, -1, 0, 1, 2, 3, 4, 5, 6, 7, 8,
         9, 10, 11, 12, 17, 18, 20, 27, 28, 30, 37, 38, 40, 49, 50, 59, 60, 61, 67, 70, 80, 87, 88, 99, 100, 127, 128, 129,
@@ -77,19 +80,37 @@ public final class NeverThrowsTest {
         return sort == 0 ? o.text() : text.toString();
     }
 
+    /** What was done to an object, but for questions. */
+    private interface Change {
+        void to(TarnishTurns x);
+    }
+
+    /** The answer of an object that was never asked anything else. */
+    private static String answerAnew(List<Change> changes, Method m, Object[] arguments) {
+        TarnishTurns x = new TarnishTurns();
+        for (Change change : changes) {
+            change.to(x);
+        }
+        return call(m, x, arguments);
+    }
+
     /** Of three objects one is never asked anything: it is to be as the others in the end. */
     private static void run(int seed, List<Method> face) {
         Random random = new Random(seed);
         TarnishTurns[] x = {new TarnishTurns(), new TarnishTurns(), new TarnishTurns()};
+        List<Change> changes = new ArrayList<>();
         int texts = random.nextInt(9);
         for (int i = 0; i < 160; i++) {
             if (i < texts || i == 80) {
                 int sort = random.nextInt(4);
                 String text = textByChance(sort, random);
                 int at = i % 2 == 0 ? -1 : random.nextInt(2);
-                for (TarnishTurns one : x) {
+                changes.add(one -> {
                     Kit.put(one, text);
                     one.text(sort, at);
+                });
+                for (TarnishTurns one : x) {
+                    changes.get(changes.size() - 1).to(one);
                 }
             }
             Method m = face.get(random.nextInt(face.size()));
@@ -99,6 +120,10 @@ public final class NeverThrowsTest {
             KIT.due("run " + seed + ", call " + i + " alike", got.equals(call(m, x[1], arguments)), true);
             if (CHANGING.contains(m.getName())) {
                 call(m, x[2], arguments);
+                changes.add(one -> call(m, one, arguments));
+            } else if (random.nextInt(4) == 0) {
+                KIT.due("run " + seed + ", call " + i + " of " + m.getName() + " as if nothing else was asked",
+                        got.equals(answerAnew(changes, m, arguments)), true);
             }
         }
         KIT.due("run " + seed + ", asking changes nothing", look(x[0]).equals(look(x[2])), true);

@@ -23,11 +23,11 @@ public final class PromisesTest {
     }
 
     private static TarnishTurns home(String house) {
-        return Kit.with(house, null, null, null);
+        return Kit.home(house);
     }
 
     private static String times(String line, int n) {
-        return line.repeat(n);
+        return Kit.times(line, n);
     }
 
     private static void promise1() {
