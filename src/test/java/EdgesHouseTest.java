@@ -449,7 +449,49 @@ public final class EdgesHouseTest {
         due("the chain", home(CHAIN).spare(0), 0);
     }
 
+    /** What a HOUSE, a MONTH, DINNERS and a LOG say together, as a row of answers. */
+    private static String answers(TarnishTurns x) {
+        StringBuilder all = new StringBuilder();
+        for (int i = 0; i < 9; i++) {
+            long[] row = {x.theft(0, i, false), x.theft(0, i, true), x.guarded(0, i, 2, false), x.guarded(0, 1, i, true),
+                x.hidden(0, 0, i, false), x.leaks(0, i, false), x.cut(0, i, true), x.spread(0, i), x.after(0, 0, i),
+                x.fits(0, 0, i), x.evening(0, 30, i), x.evenings(0, 1 + 9 * i), x.lit(0, 1 + i), x.lasting(0, i, i, true),
+                x.dusky(0, i, true), x.keep(0, i, false), x.keep(0, i, true), x.depth(0, 7, i), x.comes(0, i),
+                x.state(0, 0, 2, 10 + i), x.drawn(0, 5, 60, 30 + i), x.served(0, 0, i - 2)};
+            for (long answer : row) {
+                all.append(answer).append(' ');
+            }
+        }
+        all.append(x.heirs(0, true)).append(' ').append(x.fitter(0, true)).append(' ').append(x.spare(0));
+        return all.append(' ').append(x.till(0, 0)).toString();
+    }
+
+    /** Texts in the place of greater ones are answered as on a new object: nothing of the greater ones is left. */
+    private static void smaller() {
+        KIT.of("or in the place of one: its number.");
+        StringBuilder great = new StringBuilder(Kit.times("piece will 9;", 8) + THIRTIES + Kit.times("link 0 1 2;", 8));
+        for (int p = 0; p < 8; p++) {
+            great.append("knows ").append(p).append(' ').append(9 - p).append(';');
+        }
+        String[] greater = {great.toString(), Kit.times("both 9 6 7;", 40), Kit.times("dinner 60 7 9;", 8),
+            Kit.times("shone 7 2;", 8)};
+        String[][] less = {{"", "", "", ""}, {"piece love 1;", "hour;", "", ""},
+            {"piece love 1;" + secrets(1), "tell 0 0;hour;", "dinner 1 0 1;", "shone 0 2;"},
+            {"piece love 1;piece debt 0;" + secrets(2, 1, 3) + "knows 0 1;", "both 0 0 1;tell 1 1;",
+                "dinner 0 0 1;dinner 1 1 1;", "shone 0 4;shone 1 60;"}};
+        for (String[] texts : less) {
+            TarnishTurns x = Kit.with(greater[0], greater[1], greater[2], greater[3]);
+            for (int sort = 0; sort < 4; sort++) {
+                Kit.put(x, texts[sort]);
+                due("in the place of a greater one, sort " + sort, x.text(sort, 0), 0);
+            }
+            String anew = answers(Kit.with(texts[0], texts[1], texts[2], texts[3]));
+            KIT.due("as on a new object: " + texts[0], answers(x).equals(anew), true);
+        }
+    }
+
     public static void main(String[] args) {
+        smaller();
         details();
         comes();
         keeps();

@@ -388,6 +388,8 @@ public final class EdgesMonthTest {
         due("once", month(two, "polish 1;").after(0, 0, 0), 1);
         due("of several the least", month(two, "polish 1;polish 0;").after(0, 0, 0), 0);
         due("most", month(two, "polish 1;polish 1;polish 0;").after(0, 0, 0), 1);
+        due("the last of eight", month(Kit.times("piece love 1;", 8), "polish 7;polish 6;polish 7;").after(0, 0, 0), 7);
+        due("none of eight", month(Kit.times("piece love 1;", 8), "hour;").after(0, 0, 0), NONE);
         due("up to END", month(two, "polish 1;polish 0;polish 0;back 0;polish 1;polish 1;").after(0, 0, 0), 0);
         due("the last STATE, too", month(two, "polish 0;polish 1;polish 1;").after(0, 0, 0), 1);
         KIT.of("DARK: in how many STATES nothing is BRIGHT");
