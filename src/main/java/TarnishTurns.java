@@ -1770,20 +1770,20 @@ public final class TarnishTurns {
         int whenTold(House house, int most, int secret) {
             int evenings = fewest(house, most);
             Arrays.fill(loads, 0);
-            return place(house, most, evenings, 0) ? row[secret] : NONE;
+            return place(house, most, evenings, 0, loads, row) ? row[secret] : NONE;
         }
 
         /** Puts SECRETS from s on into evenings, each as early as all behind it allow. */
-        private boolean place(House house, int most, int evenings, int s) {
-            if (s >= house.secrets || s >= SECRETS) {
+        private static boolean place(House house, int most, int evenings, int s, int[] loads, int[] row) {
+            if (s >= house.secrets || s >= row.length) {
                 return true;
             }
-            for (int e = 0; e < evenings && e < SECRETS; e++) {
+            for (int e = 0; e < evenings && e < loads.length; e++) {
                 boolean fresh = loads[e] == 0;
                 if (loads[e] + house.weight[s] <= most) {
                     row[s] = e;
                     loads[e] += house.weight[s];
-                    if (place(house, most, evenings, s + 1)) {
+                    if (place(house, most, evenings, s + 1, loads, row)) {
                         return true;
                     }
                     loads[e] -= house.weight[s];

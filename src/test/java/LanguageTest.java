@@ -1,4 +1,6 @@
 import java.io.IOException;
+import java.lang.reflect.Field;
+import java.lang.reflect.Modifier;
 import java.nio.file.Files;
 import java.nio.file.Path;
 import java.util.ArrayDeque;
@@ -71,8 +73,13 @@ public final class LanguageTest {
             }
             String name = m.group(2);
             int parameters = m.group(3).isEmpty() ? 0 : m.group(3).split(",").length;
+            int length = lengthOf(lines, i);
             KIT.due(name + " has seven parameters at most", parameters <= 7, true);
-            KIT.due(name + " has sixty lines at most", lengthOf(lines, i) <= 60, true);
+            KIT.due(name + " has sixty lines at most", length <= 60, true);
+            String body = String.join("\n", Arrays.copyOfRange(lines, i + 1, Math.min(lines.length, i + length)));
+            boolean recursive = Pattern.compile("(?<![.\\w])" + name + "\\(").matcher(body).find();
+            KIT.due(name + ", if it calls itself, is private and static", recursive
+                    && !(m.group(1).contains("private") && m.group(1).contains("static")), false);
             if (m.group(1).contains("public")) {
                 publics.merge(name, 1, Integer::sum);
             } else {
@@ -83,6 +90,18 @@ public final class LanguageTest {
             KIT.due(name + " is public, once", publics.getOrDefault(name, 0), 1);
         }
         KIT.due("no other public method", publics.size(), FACE.length);
+    }
+
+    private static void fields() {
+        for (Class<?> c : TarnishTurns.class.getDeclaredClasses()) {
+            long fields = Arrays.stream(c.getDeclaredFields()).filter(f -> !Modifier.isStatic(f.getModifiers())).count();
+            KIT.due(c.getSimpleName() + " has twenty fields at most", fields <= 20, true);
+            for (Field f : c.getDeclaredFields()) {
+                boolean isConstant = Modifier.isFinal(f.getModifiers()) && f.getType().isPrimitive();
+                KIT.due(c.getSimpleName() + "." + f.getName() + " is no state of the class",
+                        Modifier.isStatic(f.getModifiers()) && !isConstant, false);
+            }
+        }
     }
 
     private static int lengthOf(String[] lines, int from) {
@@ -109,6 +128,7 @@ public final class LanguageTest {
         words(code);
         statics(code);
         methods(code);
+        fields();
         int classes = code.split("\\b(class|interface|record|enum) \\w+", -1).length - 1;
         KIT.due("twelve classes at most", classes <= 12, true);
         KIT.finish();

@@ -8,15 +8,18 @@ import java.util.regex.Pattern;
 import java.util.stream.Collectors;
 import java.util.stream.Stream;
 
-/** Each place of the document that names a boundary case is among the words which a test says that it holds (Kit.of). */
+/**
+ * Each word of the document, from its first line up to 'Not promised', is among the words which a test says that it holds
+ * (Kit.of), but for heads and the face, which FaceTest holds.
+ */
 public final class SentencesTest {
     private static final Kit KIT = new Kit();
 
-    /** What a boundary case is named by: bounds, refusals, what is cut, which one of several, what is empty. */
-    private static final Pattern BOUNDARY = Pattern.compile("\\d \\.\\. \\d|\\d to \\d|at most|up to|at least|NONE|-2\\b|false"
-            + "|if more|\\(cut\\)|the least|the first|the fewest|no such|none|\\b0\\b|without|can't|not there|too heavy");
-
     private static final Pattern QUOTE = Pattern.compile("KIT\\.of\\(((?:\\s*\\+?\\s*\"[^\"]*\")+)\\)");
+
+    /** Heads, the face, marks of the page, and the numbers of Terms: nothing that could be broken by an answer. */
+    private static final Pattern FRAME = Pattern.compile("# TarnishTurns ## What it is|## The public face ```java .*? \\} ```"
+            + "|## Terms|## Promise \\d+: [a-zA-Z ]+ `[^`]+`:|```text|```| \\d\\. (?=[A-Z(])");
 
     private static String sources() throws IOException {
         try (Stream<Path> files = Files.list(Path.of("src/test/java"))) {
@@ -42,16 +45,25 @@ public final class SentencesTest {
         return held;
     }
 
+    private static BitSet framed(String document) {
+        BitSet framed = new BitSet();
+        Matcher frame = FRAME.matcher(document);
+        while (frame.find()) {
+            framed.set(frame.start(), frame.end());
+        }
+        return framed;
+    }
+
     public static void main(String[] args) throws IOException {
         String document = Files.readString(Path.of("../shared/DOC.md")).replaceAll("\\s+", " ");
         BitSet held = held(document, sources());
-        int from = document.indexOf("## Terms");
+        held.or(framed(document));
         int to = document.indexOf("## Not promised");
-        KIT.due("the document has terms and promises", from >= 0 && to > from, true);
-        Matcher boundary = BOUNDARY.matcher(document).region(from, to);
-        while (boundary.find()) {
-            String near = document.substring(Math.max(0, boundary.start() - 40), boundary.end() + 20);
-            KIT.due("'" + boundary.group() + "' is held by a test, in: " + near, held.get(boundary.start()), true);
+        KIT.due("the document says what is not promised", to > 0, true);
+        Matcher word = Pattern.compile("[A-Za-z0-9_']+").matcher(document).region(0, Math.max(to, 0));
+        while (word.find()) {
+            String near = document.substring(Math.max(0, word.start() - 40), word.end() + 20);
+            KIT.due("'" + word.group() + "' is held by a test, in: " + near, held.get(word.start()), true);
         }
         KIT.finish();
     }
